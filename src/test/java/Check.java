@@ -63,14 +63,34 @@ final class Check {
         return chain;
     }
 
-    /** The text has this error, and nothing but the buffer and the error offset changes. */
-    static void error(int code, int offset, String text) {
+    /** The text, without its mark ^, has this error at the mark, and changes nothing else. */
+    static void error(int code, String marked) {
+        int offset = marked.indexOf('^');
+        String text = marked.replace("^", "");
         SpringChain chain = new SpringChain();
+        due("a change ahead", 0, () -> chain.pluck(0, 7));
         long before = chain.checksum();
-        due("load of \"" + text + "\"", code, () -> load(chain, text));
-        due("errorOffset of \"" + text + "\"", offset, chain::errorOffset);
-        due("checksum behind \"" + text + "\"", before, chain::checksum);
-        due("undo behind \"" + text + "\"", -1, chain::undo);
+        due("load of \"" + marked + "\"", code, () -> load(chain, text));
+        due("errorOffset of \"" + marked + "\"", offset, chain::errorOffset);
+        due("checksum behind \"" + marked + "\"", before, chain::checksum);
+        due("undo behind \"" + marked + "\"", 0, chain::undo);
+        throwsDue("the buffer behind \"" + marked + "\"", IllegalArgumentException.class, () -> chain.load(1));
+    }
+
+    /** Asks one thing of a chain. */
+    interface Question {
+        Object ask(int k);
+    }
+
+    /** The answers for 0, 1, 2 .., and an exception for what lies outside of them. */
+    static void row(String what, Question question, Class<? extends RuntimeException> outside, Object... want) {
+        for (int k = 0; k < want.length; k++) {
+            int at = k;
+            due(what + " " + k, want[k], () -> question.ask(at));
+        }
+        for (int k : new int[] {-1, want.length, Integer.MAX_VALUE, Integer.MIN_VALUE}) {
+            throwsDue(what + " " + k, outside, () -> question.ask(k));
+        }
     }
 
     static void end() {

@@ -1,18 +1,29 @@
 import java.nio.charset.StandardCharsets;
 import java.util.ArrayList;
 import java.util.Arrays;
+import java.util.HashSet;
 import java.util.List;
 import java.util.Random;
-import java.util.TreeMap;
+import java.util.Set;
 
 /** Runs of 512 drawn calls (always the same ones), each answer compared with the model's. */
 public final class ModelTest {
     private static final int CALLS = 512;
-    private static final TreeMap<String, Integer> SEEN = new TreeMap<>();
+    private static final Set<String> REACHED = new HashSet<>();
+    private static final String BRITTLE = "chain 3;spring 0 9 limit 90;spring 1 99 limit 50;spring 2 60 limit 70;"
+            + "spring 3 20 limit 30;";
+    /** What the runs must come to, so that they don't agree by asking nothing. */
+    private static final String[] WANTED = {"load -2", "load -3", "load -4", "load -5", "load throws", "lost",
+        "32 patterns", "far", "late", "impulse throws.IllegalStateException", "mend throws.IllegalStateException",
+        "mend", "undo 7", "undo -1", "append -1", "breaksIn", "period"};
     private static final int[] EDGES = {0, 1, 2, 3, 9, 10, 12, 13, 49, 50, 98, 99, 100, 999, 1000, 9999, 10000, 10001,
         99999, 100000, 100001};
 
+    /** What a run is full of. */
+    private enum Mood { ALL, LONG, IMPULSES, BREAKING, GREAT, PUMPED }
+
     private final Random random;
+    private final Mood mood;
     private final SpringChain chain = new SpringChain();
     private final Model model = new Model();
     private final List<String> told = new ArrayList<>();
@@ -20,6 +31,7 @@ public final class ModelTest {
 
     private ModelTest(long seed) {
         random = new Random(seed);
+        mood = Mood.values()[(int) (seed % Mood.values().length)];
     }
 
     public static void main(String[] args) {
@@ -30,8 +42,11 @@ public final class ModelTest {
                 System.exit(1);
             }
         }
-        if (args.length > 1) {
-            SEEN.forEach((call, n) -> System.out.println(call + " " + n));
+        List<String> missing = new ArrayList<>(List.of(WANTED));
+        missing.removeAll(REACHED);
+        if (!missing.isEmpty()) {
+            System.out.println("the runs never came to " + missing);
+            System.exit(1);
         }
         System.out.println(runs + " runs of " + CALLS + " calls agree with the model");
     }
@@ -55,8 +70,43 @@ public final class ModelTest {
     }
 
     private boolean step() {
+        if (calls == 0 && !firstText().isEmpty()) {
+            return loadText(firstText());
+        }
+        switch (mood) {
+            case LONG:
+                return chance(55) ? same("pass", chance(90) ? 50 : 1 + below(50)) : any();
+            case IMPULSES:
+                return chance(40) ? same("impulse", chain.state(0) + below(90), mass(), 1 + below(900))
+                        : chance(20) ? same("waiting", below(17), below(3)) : any();
+            case BREAKING:
+                return chance(6) ? loadText(BRITTLE + "strike 1 " + below(3000) + ";") : any();
+            case GREAT:
+                return chance(20) ? same("pass", 50)
+                        : chance(10) ? same("strike", mass(), chance(50) ? 100000 : -100000) : any();
+            case PUMPED:
+                return chance(90) ? same("pluck", 0, -10000) && same("pass", 1) : any();
+            default:
+                return any();
+        }
+    }
+
+    private String firstText() {
+        switch (mood) {
+            case LONG:
+                return "chain 12;springs 40;mass 3 25;pluck 2 -900;strike 7 20000;impulse 9000 4 500;";
+            case GREAT:
+                return "chain 12;masses 1;springs 999;pluck 0 9999;";
+            case PUMPED:
+                return "chain 1;masses 99;springs 999;end left 100000;end right 100000;";
+            default:
+                return "";
+        }
+    }
+
+    private boolean any() {
         int kind = below(100);
-        if (kind < 4) {
+        if (kind < (mood == Mood.ALL || mood == Mood.BREAKING ? 4 : 1) && mood != Mood.PUMPED) {
             return loadText(below(8) == 0 ? broken(setup()) : setup());
         }
         if (kind < 12) {
@@ -69,8 +119,7 @@ public final class ModelTest {
             return same("strike", mass(), around(100000));
         }
         if (kind < 35) {
-            int time = chain.state(0);
-            return same("impulse", time + below(12) - 1, mass(), around(9999));
+            return same("impulse", chain.state(0) + below(12) - 1, mass(), around(9999));
         }
         if (kind < 40) {
             return same("stiffen", spring(), chance(20) ? 0 : chance(10) ? below(1100) - 50 : below(1000));
@@ -188,6 +237,9 @@ public final class ModelTest {
     private String setup() {
         int n = chance(5) ? below(15) : 1 + below(12);
         StringBuilder text = new StringBuilder(space() + "chain " + space() + n + space() + ";");
+        for (int k = chance(4) ? 15 + below(3) : 0; k > 0; k--) {
+            text.append("impulse ").append(below(30)).append(" 0 5;");
+        }
         int statements = chance(10) ? below(30) : below(12);
         for (int k = 0; k < statements; k++) {
             String one = space() + statement(Math.max(1, n)) + space() + ";";
@@ -248,8 +300,25 @@ public final class ModelTest {
         String got = Check.outcome(() -> onProgram(name, a));
         String want = Check.outcome(() -> model.call(name, a));
         told.add(name + Arrays.toString(a) + " -> " + got + (got.equals(want) ? "" : ", due is " + want));
-        SEEN.merge(name + (want.startsWith("throws") ? " " + want : want.startsWith("-") ? " -" : ""), 1, Integer::sum);
+        reach(name, want);
         return got.equals(want);
+    }
+
+    private void reach(String name, String answer) {
+        if (answer.startsWith("throws")) {
+            REACHED.add(name + " " + answer);
+            REACHED.add(name + " throws");
+        } else if (name.equals("load") || name.equals("undo") || name.equals("append") && answer.equals("-1")) {
+            REACHED.add(name + " " + answer);
+        } else if (!answer.equals("-1")) {
+            REACHED.add(name);
+        }
+        if (name.equals("pass")) {
+            REACHED.add(chain.account(5) != 0 ? "lost" : "");
+            REACHED.add(chain.state(9) == 32 ? "32 patterns" : "");
+            REACHED.add(chain.mass(0, 1) == 1000000 ? "far" : "");
+            REACHED.add(chain.state(0) > 9999 ? "late" : "");
+        }
     }
 
     private Object onProgram(String name, int[] a) {
