@@ -679,12 +679,16 @@ public final class SpringChain {
             return count;
         }
 
+        private int signOf(int mass) {
+            int displacement = displacementOf(mass);
+            return displacement > 0 ? 1 : displacement < 0 ? -1 : 0;
+        }
+
         int patternNumber() {
             int number = 0;
             for (int mass = masses - 1; mass >= 0; mass--) {
-                int displacement = displacementOf(mass);
-                int digit = displacement > 0 ? 1 : displacement < 0 ? 2 : 0;
-                number = 3 * number + digit;
+                int sign = signOf(mass);
+                number = 3 * number + (sign < 0 ? 2 : sign);
             }
             return number;
         }
@@ -693,7 +697,7 @@ public final class SpringChain {
             int nodes = 0;
             int latestSign = 0;
             for (int mass = 0; mass < masses; mass++) {
-                int sign = Integer.signum(displacementOf(mass));
+                int sign = signOf(mass);
                 if (sign != 0) {
                     nodes += latestSign == -sign ? 1 : 0;
                     latestSign = sign;

@@ -9,6 +9,7 @@ public final class ChangesTest {
     public static void main(String[] args) {
         pass();
         pullsAheadOfImpulsesAheadOfDamping();
+        damping();
         limits();
         breaking();
         pluck();
@@ -37,6 +38,9 @@ public final class ChangesTest {
         Check.due("how many broke", 2, () -> y.pass(9));
         Check.due("broken", 2, () -> y.state(2));
         Check.due("no one breaks twice", 0, () -> y.pass(9));
+        SpringChain z = Check.loaded("chain 2;spring 2 0 limit 9;pluck 1 300;");
+        Check.due("the last spring breaks", 1, () -> z.pass(1));
+        Check.due("and is broken", 1, () -> z.state(2));
     }
 
     private static void pullsAheadOfImpulsesAheadOfDamping() {
@@ -47,12 +51,29 @@ public final class ChangesTest {
         Check.row("account", x::account, ILLEGAL, 7, -10, 0, 23, 6, 0, 49 / 6, 10 * 102 * 102 / 200 + 10 * 4 / 200);
     }
 
+    private static void damping() {
+        SpringChain x = Check.loaded("chain 1;springs 0;damp 999;strike 0 100000;");
+        x.pass(1);
+        Check.due("99900 is taken", 99900L, () -> x.account(4));
+        Check.due("100 stays", 100, () -> x.mass(0, 2));
+        x.strike(0, -101);
+        x.pass(1);
+        Check.due("nothing is taken of -1", -1, () -> x.mass(0, 2));
+    }
+
     private static void limits() {
         SpringChain x = Check.loaded("chain 1;masses 99;springs 999;end left 100000;end right 100000;");
-        for (int k = 0; k < 46; k++) {
+        for (int k = 0; k < 45; k++) {
             x.pluck(0, -10000);
             x.pass(1);
         }
+        x.pluck(0, -10000);
+        Check.due("nothing lost yet", 0L, () -> x.account(5));
+        x.pass(1);
+        x.undo();
+        Check.row("undone", x::account, ILLEGAL, 98901000, 45 * 1098900, 45 * 1098900, 0, 0, 0,
+                98901000L * 98901000 / 198, 2 * (999L * 110000 * 110000 / 200));
+        x.pass(1);
         // each tick gives 2 * 1098900; the 46th would make it 101098800
         Check.due("momentum", 100000000, () -> x.mass(0, 2));
         Check.due("displacement", 1000000, () -> x.mass(0, 1));
@@ -241,6 +262,11 @@ public final class ChangesTest {
         SpringChain x = Check.loaded("chain 2;spring 0 5 limit 9;pluck 0 30;damp 4;impulse 1 1 70;end left 8;");
         x.pass(1);
         undone(x, "load", () -> Check.load(x, "chain 5;end left 4;"));
+        undone(x, "load and pass", () -> {
+            Check.load(x, "chain 3;pluck 1 -5;pluck 2 7;");
+            x.pass(9);
+            return x.undo();
+        });
         undone(x, "pass", () -> x.pass(9));
         undone(x, "pluck", () -> x.pluck(1, 9));
         undone(x, "strike", () -> x.strike(1, 9));

@@ -18,6 +18,7 @@ public final class ForetellingTest {
         // 800 -> momentum -3600, 440 -> -4480, -8 -> -4464, -454
         Check.row("in four ticks", k -> x.foretold(4, 0, k), ILLEGAL, -454, -4464, 800, 0, 0);
         Check.row("the masses", k -> x.foretold(1, k, 0), INDEX, 800);
+        Check.row("at rest", k -> new SpringChain().foretold(9, 0, k), ILLEGAL, 0, 0, 0, 0, 0);
         Check.throwsDue("0 ticks", ILLEGAL, () -> x.foretold(0, 0, 0));
         Check.throwsDue("201 ticks", ILLEGAL, () -> x.foretold(201, 0, 0));
         Check.due("200 ticks", true, () -> x.foretold(200, 0, 2) >= 800);
@@ -50,6 +51,9 @@ public final class ForetellingTest {
         Check.throwsDue("limit 301", ILLEGAL, () -> x.period(0, 301));
         Check.throwsDue("mass ahead of limit", INDEX, () -> x.period(1, 0));
         Check.throwsDue("mass -1", INDEX, () -> x.period(-1, 5));
+        // displacements 1, 2, 0, 1: it rises in ticks 1 and 4, and not from 1 to 2
+        SpringChain small = Check.loaded("chain 1;masses 1;springs 0;impulse 0 0 1;impulse 2 0 -3;impulse 3 0 3;");
+        Check.due("from 0 to 1 and not from 1 to 2", 3, () -> small.period(0, 4));
         SpringChain y = Check.loaded("chain 1;strike 0 50;");
         int first = 0;
         int second = 0;

@@ -8,6 +8,7 @@ public final class SetupTest {
         newObject();
         append();
         load();
+        nothingIsLeftOfWhatWasForetold();
         defaults();
         laterCountsAhead();
         spaces();
@@ -74,11 +75,24 @@ public final class SetupTest {
         SpringChain used = Check.loaded("chain 2;spring 0 9 limit 3;damp 7;pluck 1 40;strike 0 90;end left 5;"
                 + "end right 6;impulse 3 1 4;impulse 0 1 4;");
         used.pass(2);
+        used.foretold(200, 0, 0);
         Check.due("a successful load replaces all", 1, () -> Check.load(used, "chain 1;"));
         Check.due("as new", new SpringChain().checksum(), used::checksum);
         Check.due("masses", 1, () -> used.state(1));
         Check.due("undo of the load", 2, used::undo);
         Check.due("back", 2, () -> used.state(0));
+    }
+
+    private static void nothingIsLeftOfWhatWasForetold() {
+        SpringChain x = Check.loaded("chain 1;masses 99;springs 999;spring 0 999 limit 90000;pluck 0 -10000;damp 9;"
+                + "end left 100000;end right 100000;strike 0 -5;");
+        for (int k = 0; k < 70; k++) {
+            x.pluck(0, -10000);
+            x.pass(1);
+        }
+        Check.due("all is foretold to be other than at first", 1, () -> x.foretold(200, 0, 3));
+        Check.due("load", 2, () -> Check.load(x, "chain 2;"));
+        Check.due("as by the text", Check.loaded("chain 2;").checksum(), x::checksum);
     }
 
     private static void defaults() {
@@ -205,6 +219,12 @@ public final class SetupTest {
         Check.error(SYNTAX, "chain 2;spring 0 1 ^limits 1;");
         Check.error(SYNTAX, "chain 2;spring 0 1 limit 1 ^limit 1;");
         Check.error(SYNTAX, "chain 2;springs 1 ^limit 1;");
+        Check.error(SYNTAX, "chain 2;^dampa 1;");
+        Check.error(SYNTAX, "chain 2;^dampz 1;");
+        Check.error(SYNTAX, "chain 2;^`;");
+        Check.error(SYNTAX, "chain 2;damp^{");
+        Check.error(SYNTAX, "chain 2;damp 1^:;");
+        Check.error(SYNTAX, "chain 2;damp 1^/;");
         Check.error(SYNTAX, "chain 2;end ^lefts 1;");
         Check.error(SYNTAX, "chain 2;end ^leftright 1;");
         Check.error(SYNTAX, "chain 2;^endleft 1;");
@@ -260,8 +280,8 @@ public final class SetupTest {
         Check.loaded("chain 2;pluck 1 0;strike 1 0;strike 0 0;pluck 0 0;");
         Check.error(RANGE, "chain 2;pluck 1 0;pluck ^2 0;");
         SpringChain x = new SpringChain();
-        Check.due("a text", 2, () -> Check.load(x, "chain 2;pluck 1 0;strike 0 0;"));
-        Check.due("another text begins anew", 2, () -> Check.load(x, "chain 2;pluck 1 0;strike 0 0;"));
+        Check.due("a text", 2, () -> Check.load(x, "chain 2;pluck 1 0;strike 0 0;damp 1;"));
+        Check.due("another begins anew", 2, () -> Check.load(x, "chain 2;pluck 1 0;strike 0 0;damp 1;"));
     }
 
     private static void tooMany() {
