@@ -84,15 +84,20 @@ public final class SetupTest {
     }
 
     private static void nothingIsLeftOfWhatWasForetold() {
-        SpringChain x = Check.loaded("chain 1;masses 99;springs 999;spring 0 999 limit 90000;pluck 0 -10000;damp 9;"
-                + "end left 100000;end right 100000;strike 0 -5;");
-        for (int k = 0; k < 70; k++) {
-            x.pluck(0, -10000);
-            x.pass(1);
-        }
-        Check.due("all is foretold to be other than at first", 1, () -> x.foretold(200, 0, 3));
+        SpringChain x = Check.loaded("chain 1;spring 0 999 limit 90000;pluck 0 -10000;damp 9;end left 100000;");
+        Check.due("a spring breaks", 1, () -> x.foretold(200, 0, 3));
         Check.due("load", 2, () -> Check.load(x, "chain 2;"));
         Check.due("as by the text", Check.loaded("chain 2;").checksum(), x::checksum);
+
+        SpringChain y = Check.loaded("chain 1;masses 99;springs 999;damp 1;end left 100000;end right 100000;strike 0 5;");
+        for (int k = 0; k < 50; k++) {
+            y.pluck(0, -10000);
+            y.pass(1);
+        }
+        Check.due("something was lost", true, () -> y.account(5) > 0);
+        Check.due("far", 1000000, () -> y.foretold(200, 0, 2));
+        Check.due("load", 2, () -> Check.load(y, "chain 2;"));
+        Check.due("as by the text", Check.loaded("chain 2;").checksum(), y::checksum);
     }
 
     private static void defaults() {
