@@ -241,7 +241,7 @@ public final class SpringChain {
             throw new IllegalStateException("the spring is whole");
         }
         history.keep(chain);
-        chain.makeWhole(spring);
+        chain.setBroken(spring, false);
         return chain.countBroken();
     }
 
@@ -341,8 +341,6 @@ public final class SpringChain {
         private final int[] stiffnesses;
         private final int[] limits;
         private final boolean[] broken;
-        // The pulls of the tick that is being done; nothing between ticks.
-        private final int[] pulls;
 
         Chain() {
             weights = new int[MOST_MASSES];
@@ -351,7 +349,6 @@ public final class SpringChain {
             stiffnesses = new int[MOST_SPRINGS];
             limits = new int[MOST_SPRINGS];
             broken = new boolean[MOST_SPRINGS];
-            pulls = new int[MOST_SPRINGS];
             ledger = new Ledger();
             impulses = new Impulses();
             patterns = new Patterns();
@@ -489,9 +486,9 @@ public final class SpringChain {
             }
         }
 
-        void makeWhole(int spring) {
+        void setBroken(int spring, boolean isBroken) {
             if (hasSpring(spring)) {
-                broken[spring] = false;
+                broken[spring] = isBroken;
             }
         }
 
@@ -509,13 +506,17 @@ public final class SpringChain {
             }
         }
 
+        private void putMomentum(int mass, int momentum) {
+            if (hasMass(mass)) {
+                momenta[mass] = momentum;
+            }
+        }
+
         /** A strike: only what the limited momentum gained counts as given. */
         void hit(int mass, int strength) {
-            if (hasMass(mass)) {
-                int before = momenta[mass];
-                momenta[mass] = limited((long) before + strength, MOST_MOMENTUM);
-                ledger.given += momenta[mass] - before;
-            }
+            int before = momentumOf(mass);
+            putMomentum(mass, limited((long) before + strength, MOST_MOMENTUM));
+            ledger.given += momentumOf(mass) - before;
         }
 
         /** Does one tick, in the document's order, and returns how many springs broke in it. */
@@ -531,57 +532,52 @@ public final class SpringChain {
             return broke;
         }
 
-        // All pulls are taken ahead of the first momentum's change, and by the old displacements.
+        // Pulls go by displacements alone, so that no momentum that changes here changes one of them.
         private void takePulls() {
-            for (int spring = 0; spring <= masses; spring++) {
-                pulls[spring] = pullOf(spring);
-            }
             for (int mass = 0; mass < masses; mass++) {
-                momenta[mass] += pulls[mass + 1] - pulls[mass];
+                putMomentum(mass, momentumOf(mass) + pullOf(mass + 1) - pullOf(mass));
             }
-            ledger.byLeftEnd -= pulls[0];
-            ledger.byRightEnd += pulls[masses];
+            ledger.byLeftEnd -= pullOf(0);
+            ledger.byRightEnd += pullOf(masses);
         }
 
         private void giveImpulses() {
             int due = impulses.countOfTick(time);
             for (int k = 0; k < due; k++) {
                 int mass = impulses.massOf(k);
-                if (hasMass(mass)) {
-                    momenta[mass] += impulses.strengthOf(k);
-                    ledger.given += impulses.strengthOf(k);
-                }
+                putMomentum(mass, momentumOf(mass) + impulses.strengthOf(k));
+                ledger.given += impulses.strengthOf(k);
             }
             impulses.dropFirst(due);
         }
 
         private void dampMomenta() {
             for (int mass = 0; mass < masses; mass++) {
-                int taken = (int) ((long) momenta[mass] * damping / 1000);
-                momenta[mass] -= taken;
+                int taken = (int) ((long) momentumOf(mass) * damping / 1000);
+                putMomentum(mass, momentumOf(mass) - taken);
                 ledger.damped += taken;
             }
         }
 
         private void limitMomenta() {
             for (int mass = 0; mass < masses; mass++) {
-                int before = momenta[mass];
-                momenta[mass] = limited(before, MOST_MOMENTUM);
-                ledger.lost += before - momenta[mass];
+                int before = momentumOf(mass);
+                putMomentum(mass, limited(before, MOST_MOMENTUM));
+                ledger.lost += before - momentumOf(mass);
             }
         }
 
         private void shiftMasses() {
             for (int mass = 0; mass < masses; mass++) {
-                displacements[mass] = limited((long) displacements[mass] + velocityOf(mass), MOST_DISPLACEMENT);
+                displace(mass, limited((long) displacementOf(mass) + velocityOf(mass), MOST_DISPLACEMENT));
             }
         }
 
         private int breakSprings() {
             int broke = 0;
             for (int spring = 0; spring <= masses; spring++) {
-                if (!broken[spring] && isOverstretched(spring)) {
-                    broken[spring] = true;
+                if (!isBroken(spring) && isOverstretched(spring)) {
+                    setBroken(spring, true);
                     broke++;
                 }
             }

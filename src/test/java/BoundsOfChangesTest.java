@@ -93,6 +93,7 @@ public final class BoundsOfChangesTest {
         Check.holds(23, "The input buffer and the error offset are not affected.",
                 BoundsOfChangesTest::bufferAndOffsetStay);
         Check.holds(23, CHANGES, BoundsOfChangesTest::eachChange);
+        Check.holds(23, CHANGES, BoundsOfChangesTest::changesBehindALoad);
         Check.holds(23, "each such call that does not throw an exception is a change,", BoundsOfChangesTest::noChange);
         Check.holds(23, "also if all data stay as they were.", BoundsOfChangesTest::changesThatLeaveAll);
     }
@@ -596,6 +597,21 @@ public final class BoundsOfChangesTest {
             Check.due("undo of " + name + " once more", 2, x::undo);
             Check.due("all once more", before, () -> Check.all(x));
         }
+    }
+
+    private static void changesBehindALoad() {
+        SpringChain x = broken();
+        x.pass(2);
+        String before = Check.all(x);
+        Check.due("load", 12, () -> Check.load(x, "chain 12;pluck 11 -900;impulse 3 11 5;impulse 4 11 6;impulse 5 0 7;"));
+        x.pass(20);
+        x.pluck(5, 77);
+        x.pass(20);
+        Check.due("undo of 20 ticks", 6, x::undo);
+        Check.due("undo of the pluck", 5, x::undo);
+        Check.due("undo of 20 ticks", 4, x::undo);
+        Check.due("undo of the load", 3, x::undo);
+        Check.due("all behind it", before, () -> Check.all(x));
     }
 
     private static void noChange() {

@@ -43,6 +43,7 @@ public final class BoundsOfForetellingTest {
         Check.holds(12, "Returns the number of ticks from the first tick in which it rises to the next one in which it"
                 + " rises,", BoundsOfForetellingTest::firstToNext);
         Check.holds(12, "-1 if it does not rise twice in limit ticks.", BoundsOfForetellingTest::notTwice);
+        Check.holds(12, "if only ticks pass;", BoundsOfForetellingTest::periodFromNowOn);
         Check.holds(12, "if only ticks pass;", BoundsOfForetellingTest::periodChangesNothing);
     }
 
@@ -52,6 +53,7 @@ public final class BoundsOfForetellingTest {
                 BoundsOfForetellingTest::limitOfBreaksIn);
         Check.holds(13, "Returns in how many ticks a spring breaks,", BoundsOfForetellingTest::firstOfSeveral);
         Check.holds(13, "-1 if none breaks in limit ticks.", BoundsOfForetellingTest::noneBreaks);
+        Check.holds(13, "if only ticks pass;", BoundsOfForetellingTest::breaksInFromNowOn);
         Check.holds(13, "if only ticks pass;", BoundsOfForetellingTest::breaksInChangesNothing);
     }
 
@@ -225,6 +227,20 @@ public final class BoundsOfForetellingTest {
         Check.due("the second in tick 9 of 8", -1, () -> risingIn(5, 9).period(1, 8));
     }
 
+    private static void periodFromNowOn() {
+        SpringChain x = risingIn(3, 7, 19);
+        Check.due("from tick 0 on", 4, () -> x.period(1, 300));
+        x.pass(3);
+        Check.due("behind the first rise", 12, () -> x.period(1, 300));
+        Check.due("and the same once more", 12, () -> x.period(1, 16));
+        Check.due("one tick less", -1, () -> x.period(1, 15));
+        x.pluck(1, -1);
+        Check.due("plucked to -1 it never rises above 0", -1, () -> x.period(1, 300));
+        x.undo();
+        x.foretold(200, 1, 0);
+        Check.due("undone", 12, () -> x.period(1, 300));
+    }
+
     private static void periodChangesNothing() {
         SpringChain x = Check.loaded(LIVELY);
         String before = Check.all(x);
@@ -271,6 +287,19 @@ public final class BoundsOfForetellingTest {
                 () -> Check.loaded("chain 1;springs 0;spring 0 0limit 5;pluck 0 5;").breaksIn(200));
         Check.due("in 7 of 6", -1, () -> breakingIn(7).breaksIn(6));
         Check.due("in 7 of 7", 7, () -> breakingIn(7).breaksIn(7));
+    }
+
+    private static void breaksInFromNowOn() {
+        SpringChain x = breakingIn(50);
+        Check.due("from tick 0 on", 50, () -> x.breaksIn(50));
+        x.pass(20);
+        Check.due("behind 20 ticks", 30, () -> x.breaksIn(30));
+        Check.due("one tick less", -1, () -> x.breaksIn(29));
+        x.pluck(11, 6);
+        Check.due("plucked", 1, () -> x.breaksIn(200));
+        x.undo();
+        x.period(11, 300);
+        Check.due("undone", 30, () -> x.breaksIn(200));
     }
 
     private static void breaksInChangesNothing() {

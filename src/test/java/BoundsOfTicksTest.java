@@ -514,6 +514,7 @@ public final class BoundsOfTicksTest {
         long before = x.checksum();
         Check.due("a load with an error", true, () -> Check.load(x, "chain 1;x") < 0);
         Check.due("counts on", before, x::checksum);
+        x.foretold(200, 0, 0);
         Check.due("a load", 1, () -> Check.load(x, "chain 1;strike 0 -9;"));
         Check.row("only what its text gave", x::account, ILLEGAL, -9, 0, 0, -9, 0, 0, 4, 0);
         Check.due("undo", true, () -> x.undo() > 0);
