@@ -769,6 +769,7 @@ public final class BoundsOfTextTest {
         Check.error(TOO_MANY, IMPULSES + "^impulse 3 0 5;");
         Check.error(TOO_MANY, IMPULSES + "masses 5;   ^impulse 3 0 5;");
         Check.error(TOO_MANY, IMPULSES + "^impulse 9999 1 -9999;");
+        Check.error(TOO_MANY, IMPULSES + "^impulse 10000 2 0;");
         Check.error(RANGE, "chain 2;" + "impulse 3 0 5;".repeat(15) + "impulse 3 0 ^0;impulse 3 0 5;");
         Check.due("16", 16, () -> Check.loaded(IMPULSES + "masses 5;end left 6;").state(6));
     }

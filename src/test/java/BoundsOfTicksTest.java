@@ -292,6 +292,9 @@ public final class BoundsOfTicksTest {
             Check.due("damp " + c[0] + " leaves of " + c[1], c[1] - c[2], () -> x.mass(0, 2));
             Check.due("took", c[2], () -> x.account(4));
         }
+        SpringChain given = Check.loaded("chain 1;springs 0;damp 500;impulse 0 0 100;");
+        given.pass(1);
+        Check.due("an impulse is damped in its tick", 50, () -> given.mass(0, 2));
         // 2 * 1098900 * 999 is more than an int holds.
         SpringChain y = Check.loaded("chain 1;springs 999;damp 999;end left 100000;end right 100000;pluck 0 -10000;");
         y.pass(1);
@@ -633,7 +636,8 @@ public final class BoundsOfTicksTest {
     }
 
     private static void energyOfMasses() {
-        int[][] cases = {{0, 10, 0}, {1, 1, 0}, {2, 1, 2}, {-2, 1, 2}, {14, 99, 0}, {-15, 99, 1}, {100, 50, 100}};
+        int[][] cases = {{0, 10, 0}, {1, 1, 0}, {2, 1, 2}, {3, 1, 4}, {-5, 3, 4}, {-2, 1, 2}, {14, 99, 0}, {-15, 99, 1},
+            {100, 50, 100}};
         for (int[] c : cases) {
             SpringChain x = Check.loaded("chain 1;masses " + c[1] + ";strike 0 " + c[0] + ";");
             Check.due("the energy of " + c[0] + " with weight " + c[1], c[2], () -> x.account(6));

@@ -31,7 +31,7 @@ public final class ForetellingTest {
         SpringChain y = Check.loaded("chain 3;springs 60;spring 1 60 limit 90;spring 2 9 limit 200;pluck 1 80;damp 3;"
                 + "strike 0 -300;impulse 4 2 900;impulse 40 0 -7000;end right 30;");
         int greatest = 0;
-        for (int t = 1; t <= 60; t++) {
+        for (int t = 1; t <= 50; t++) {
             int ticks = t;
             y.pass(1);
             greatest = Math.max(greatest, Math.abs(y.mass(2, 1)));

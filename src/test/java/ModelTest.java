@@ -77,7 +77,7 @@ public final class ModelTest {
             case LONG:
                 return chance(55) ? same("pass", chance(90) ? 50 : 1 + below(50)) : any();
             case IMPULSES:
-                return chance(40) ? same("impulse", chain.state(0) + below(90), mass(), 1 + below(900))
+                return chance(40) ? same("impulse", (int) model.world.time + below(90), mass(), 1 + below(900))
                         : chance(20) ? same("waiting", below(17), below(3)) : any();
             case BREAKING:
                 return chance(6) ? loadText(BRITTLE + "strike 1 " + below(3000) + ";") : any();
@@ -119,7 +119,7 @@ public final class ModelTest {
             return same("strike", mass(), around(100000));
         }
         if (kind < 35) {
-            return same("impulse", chain.state(0) + below(12) - 1, mass(), around(9999));
+            return same("impulse", (int) model.world.time + below(12) - 1, mass(), around(9999));
         }
         if (kind < 40) {
             return same("stiffen", spring(), chance(20) ? 0 : chance(10) ? below(1100) - 50 : below(1000));
@@ -181,11 +181,11 @@ public final class ModelTest {
     }
 
     private int mass() {
-        return chance(4) ? below(16) - 2 : below(chain.state(1));
+        return chance(4) ? below(16) - 2 : below(model.world.masses.size());
     }
 
     private int spring() {
-        return chance(4) ? below(16) - 2 : below(chain.state(1) + 1);
+        return chance(4) ? below(16) - 2 : below(model.world.springs.size());
     }
 
     private int around(int bound) {
@@ -314,10 +314,10 @@ public final class ModelTest {
             REACHED.add(name);
         }
         if (name.equals("pass")) {
-            REACHED.add(chain.account(5) != 0 ? "lost" : "");
-            REACHED.add(chain.state(9) == 32 ? "32 patterns" : "");
-            REACHED.add(chain.mass(0, 1) == 1000000 ? "far" : "");
-            REACHED.add(chain.state(0) > 9999 ? "late" : "");
+            REACHED.add(model.world.account[5] != 0 ? "lost" : "");
+            REACHED.add(model.world.noted.size() == 32 ? "32 patterns" : "");
+            REACHED.add(model.world.masses.get(0).at == 1000000 ? "far" : "");
+            REACHED.add(model.world.time > 9999 ? "late" : "");
         }
     }
 
