@@ -11,7 +11,7 @@ import java.util.Arrays;
 import java.util.Collections;
 import java.util.List;
 
-/** The face of the class, its constants, and those rules of LANGUAGE.md that a text can be searched for. */
+/** The face of the class, its constants, what README.md tells of them, and words that LANGUAGE.md leaves out. */
 public final class FaceTest {
     private static final String[] FACE = {"int append(int,int,int,int,int)", "int load(int)", "int errorOffset()",
         "int state(int)", "long account(int)", "int mass(int,int)", "int spring(int,int)", "int noted(int,int)",
@@ -23,9 +23,12 @@ public final class FaceTest {
         "catch", "var ", "System.", "Thread", "static {", "Double", "Float", "@"};
 
     public static void main(String[] args) throws IOException {
+        String program = Files.readString(Path.of("src/main/java/SpringChain.java"), StandardCharsets.ISO_8859_1);
         constants();
         members();
-        text(Files.readString(Path.of("src/main/java/SpringChain.java"), StandardCharsets.ISO_8859_1));
+        declarations(program);
+        text(program);
+        readme(Files.readString(Path.of("README.md"), StandardCharsets.UTF_8));
         Check.end();
     }
 
@@ -64,6 +67,34 @@ public final class FaceTest {
                 Check.due(m.getName() + " bears a name of the face", false, () -> names.contains(m.getName()));
             }
         }
+    }
+
+    /** Each line of the document's face stands in the program, with its parameters' names and exceptions. */
+    private static void declarations(String program) {
+        String plain = program.replaceAll("\\s+", " ");
+        Check.due("the face of the document has 30 lines, if the document is there", true,
+                () -> Doc.face().isEmpty() || Doc.face().size() == 30);
+        for (String line : Doc.face()) {
+            boolean isMethod = line.contains("(");
+            String want = isMethod ? line.replaceAll(";$", " {") : line;
+            Check.due("the program has " + want, true, () -> plain.contains(want));
+        }
+    }
+
+    /** README.md tells of each method of the face, with its parameters, and of each constant. */
+    private static void readme(String readme) {
+        for (String line : Doc.face()) {
+            if (line.startsWith("public ") && line.contains("(")) {
+                String name = line.replaceAll("\\(.*", "").replaceAll(".* ", "");
+                String names = line.replaceAll(".*\\((.*)\\).*", "$1").replaceAll("\\w+ (\\w+)", "$1");
+                String told = name.equals("append") ? "w0, .., w4" : names;
+                Check.due("README.md tells of " + name, true, () -> readme.contains("| `" + name + "(" + told + ")` | "));
+            } else if (line.startsWith("public static")) {
+                String name = line.replaceAll(" =.*", "").replaceAll(".* ", "");
+                Check.due("README.md tells of " + name, true, () -> readme.contains("`" + name + "`"));
+            }
+        }
+        Check.due("README.md tells how the tests are run", true, () -> readme.contains("\n.ci/run\n"));
     }
 
     private static void text(String text) {
