@@ -83,6 +83,7 @@ public final class BoundsOfTicksTest {
                 + " took and what was lost.", BoundsOfTicksTest::sumOfMomenta);
         Check.holds(6, "(All sums of the accounts are long numbers.)", BoundsOfTicksTest::endsBeyondInt);
         Check.holds(6, "(All sums of the accounts are long numbers.)", BoundsOfTicksTest::dampedBeyondInt);
+        Check.holds(6, "(All sums of the accounts are long numbers.)", BoundsOfTicksTest::lostBeyondInt);
     }
 
     private static void energies() {
@@ -633,6 +634,56 @@ public final class BoundsOfTicksTest {
         long due = damped;
         Check.due("it is beyond an int", true, () -> due > Integer.MAX_VALUE);
         Check.due("what damping took", due, () -> x.account(4));
+    }
+
+    /*
+     * The middle mass, its momentum at its bound, is plucked below its neighbours again and again: what
+     * they pull it up by is lost. With its springs off, they swing and get their momentum back from the ends.
+     */
+    private static void lostBeyondInt() {
+        for (int sign : new int[] {1, -1}) {
+            SpringChain x = Check.loaded("chain 3;masses 99;mass 1 1;springs 999;end left " + sign * 100000
+                    + ";end right " + sign * 100000 + ";pluck 1 " + sign * -10000 + ";");
+            long[] at = {0, sign * -10000, 0};
+            long[] momenta = new long[3];
+            x.pass(14);
+            long lost = reckonLost(at, momenta, sign, 999, 14);
+            for (int cycle = 0; cycle < 38; cycle++) {
+                for (int k = 0; k < 4; k++) {
+                    x.pluck(1, sign * -10000);
+                    x.pass(1);
+                    at[1] = sign * -10000;
+                    lost += reckonLost(at, momenta, sign, 999, 1);
+                }
+                x.stiffen(1, 0);
+                x.stiffen(2, 0);
+                x.pass(13);
+                lost += reckonLost(at, momenta, sign, 0, 13);
+                x.stiffen(1, 999);
+                x.stiffen(2, 999);
+            }
+            long due = lost;
+            Check.due("it is beyond an int", true, () -> sign * due > Integer.MAX_VALUE);
+            Check.due("what was lost", due, () -> x.account(5));
+            Check.due("the sum of all momenta", x.account(1) + x.account(2) - due, () -> x.account(0));
+        }
+    }
+
+    /** What is lost in some ticks by three masses of weight 99, 1, 99, the outer springs of stiffness 999. */
+    private static long reckonLost(long[] at, long[] momenta, int sign, int inner, int ticks) {
+        long lost = 0;
+        for (int k = 0; k < ticks; k++) {
+            long[] pulls = {999 * (at[0] - sign * 100000) / 100, inner * (at[1] - at[0]) / 100,
+                inner * (at[2] - at[1]) / 100, 999 * (sign * 100000 - at[2]) / 100};
+            for (int mass = 0; mass < 3; mass++) {
+                long ahead = momenta[mass] + pulls[mass + 1] - pulls[mass];
+                momenta[mass] = Math.max(-MOST_MOMENTUM, Math.min(MOST_MOMENTUM, ahead));
+                lost += ahead - momenta[mass];
+                long to = at[mass] + momenta[mass] / (mass == 1 ? 1 : 99);
+                at[mass] = Math.max(-MOST_DISPLACEMENT, Math.min(MOST_DISPLACEMENT, to));
+            }
+        }
+        return lost;
     }
 
     private static void energyOfMasses() {
